@@ -1065,7 +1065,8 @@ public final class ShareTickets {
                 tree.halveUses();
             }
             loans.dropOver(time);
-            settle();
+            scale.survey(this);
+            fillSlots();
             preemptJobs();
         }
 
@@ -1302,7 +1303,7 @@ public final class ShareTickets {
             return sign >= '0' && sign <= '9';
         }
 
-        /** Behind the end stands a 0, which no text may have. */
+        /** Behind the end stands a 0, which no token begins with. */
         private int byteAt(int index) {
             return index >= 0 && index < length && index < MOST_BYTES ? bytes[index] : 0;
         }

@@ -1,5 +1,0 @@
-public final class FaceTest {
-    public static void main(String[] args) {
-        System.out.println("x");
-    }
-}
