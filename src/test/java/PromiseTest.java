@@ -1,92 +1,5 @@
-import java.nio.ByteBuffer;
-import java.nio.charset.StandardCharsets;
-import java.util.Arrays;
-import java.util.NoSuchElementException;
-
 /** The document's promises, one method each, with answers worked out by hand. */
-public final class PromiseTest {
-    private static final Class<? extends Throwable> INDEX = IndexOutOfBoundsException.class;
-    private static final Class<? extends Throwable> ARGUMENT = IllegalArgumentException.class;
-    private static final Class<? extends Throwable> STATE = IllegalStateException.class;
-    private static final Class<? extends Throwable> NO_SUCH = NoSuchElementException.class;
-    private static final int SPACES = 0x20202020;
-
-    private static int promise;
-    private static int wrong;
-
-    private interface Call {
-        long answer();
-    }
-
-    private static void is(long due, long got, String what) {
-        if (got != due) {
-            wrong++;
-            System.out.println("promise " + promise + ": " + what + " answered " + got + ", due is " + due);
-        }
-    }
-
-    private static void fails(Class<? extends Throwable> due, String what, Call call) {
-        String got;
-        try {
-            got = String.valueOf(call.answer());
-        } catch (RuntimeException e) {
-            if (e.getClass() == due) {
-                return;
-            }
-            got = e.toString();
-        }
-        wrong++;
-        System.out.println("promise " + promise + ": " + what + " answered " + got + ", due is " + due.getName());
-    }
-
-    private static int append(ShareTickets x, String text) {
-        byte[] bytes = new byte[(text.length() + 19) / 20 * 20];
-        Arrays.fill(bytes, (byte) ' ');
-        System.arraycopy(text.getBytes(StandardCharsets.ISO_8859_1), 0, bytes, 0, text.length());
-        ByteBuffer ints = ByteBuffer.wrap(bytes);
-        int length = 0;
-        while (ints.hasRemaining()) {
-            length = x.append(ints.getInt(), ints.getInt(), ints.getInt(), ints.getInt(), ints.getInt());
-        }
-        return length;
-    }
-
-    private static int load(ShareTickets x, String text) {
-        append(x, text);
-        return x.load(text.length());
-    }
-
-    private static ShareTickets place(String text) {
-        ShareTickets x = new ShareTickets();
-        is(1, load(x, text) > 0 ? 1 : 0, "load " + text);
-        return x;
-    }
-
-    private static String machines(ShareTickets x) {
-        StringBuilder s = new StringBuilder();
-        int length = x.writeMachines();
-        for (int i = 0; i < length; i++) {
-            s.append((char) x.writtenByte(i));
-        }
-        return s.toString();
-    }
-
-    private static void shows(String due, ShareTickets x, String what) {
-        String got = machines(x);
-        if (!got.equals(due)) {
-            wrong++;
-            System.out.println("promise " + promise + ": " + what + " shows " + got + ", due is " + due);
-        }
-    }
-
-    private static void tellsError(int code, int position, String text) {
-        ShareTickets x = new ShareTickets();
-        is(code, load(x, text), "load of " + text);
-        is(position, x.errorPosition(), "position of the error in " + text);
-        is(1, x.count(0), "users after the error in " + text);
-        is(0, x.count(1) + x.count(2), "machines and jobs after the error in " + text);
-    }
-
+public final class PromiseTest extends Checks {
     private static void p1NewObject() {
         ShareTickets x = new ShareTickets();
         int[] due = {1, 0, 0, 0, 0, 10, 50, 5, 0, 0, 0, 0, 0};
@@ -839,7 +752,8 @@ public final class PromiseTest {
     }
 
     private static void allPromises() {
-        for (promise = 1; promise <= 29; promise++) {
+        for (int promise = 1; promise <= 29; promise++) {
+            about("promise " + promise);
             switch (promise) {
                 case 1: p1NewObject(); break;
                 case 2: p2Append(); break;
@@ -876,9 +790,6 @@ public final class PromiseTest {
 
     public static void main(String[] args) {
         allPromises();
-        if (wrong > 0) {
-            System.exit(1);
-        }
-        System.out.println("all promises hold");
+        end("all promises hold");
     }
 }
