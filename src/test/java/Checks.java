@@ -64,6 +64,12 @@ abstract class Checks {
         }
     }
 
+    static void holds(boolean isSo, String otherwise) {
+        if (!isSo) {
+            complain(otherwise);
+        }
+    }
+
     static void fails(Class<? extends Throwable> due, String what, Call call) {
         throwsThis(due, what, null, x -> call.answer());
     }
